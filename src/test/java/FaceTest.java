@@ -1,0 +1,143 @@
+import java.io.IOException;
+import java.lang.reflect.Constructor;
+import java.lang.reflect.Field;
+import java.lang.reflect.Method;
+import java.lang.reflect.Modifier;
+import java.nio.file.Files;
+import java.nio.file.Path;
+import java.util.Arrays;
+import java.util.HashSet;
+import java.util.List;
+import java.util.Set;
+import java.util.TreeSet;
+import java.util.regex.Matcher;
+import java.util.regex.Pattern;
+import java.util.stream.Collectors;
+
+/** The public face is the document's, and the source keeps to those rules of LANGUAGE.md that a look can tell. */
+public final class FaceTest {
+    private static final Checks CHECK = new Checks();
+    private static final Path SOURCE = Path.of("src/main/java/HiccupTown.java");
+    private static final Path DOCUMENT = Path.of("../shared/DOC.md");
+
+    public static void main(String[] args) throws IOException {
+        faceIsTold();
+        insideIsHidden();
+        sourceIsPlain(Files.readString(SOURCE));
+        CHECK.finish();
+    }
+
+    private static void none(String what, Set<String> found) {
+        if (!found.isEmpty()) {
+            System.out.println(what + ": " + found);
+        }
+        CHECK.due(what, found.size(), 0);
+    }
+
+    private static void faceIsTold() throws IOException {
+        Set<String> told = new TreeSet<>();
+        Matcher m = Pattern.compile("(?m)^    public (?:static final )?([^;]*);").matcher(Files.readString(DOCUMENT));
+        while (m.find()) {
+            told.add(m.group(1).replaceAll(" (a|b|c|d|e|n|p|q|k|w|i|what|seed|lives)\\b", "").replaceAll(" = .*| throws .*", ""));
+        }
+        Set<String> there = new TreeSet<>();
+        for (Method method : HiccupTown.class.getDeclaredMethods()) {
+            if (!Modifier.isPrivate(method.getModifiers())) {
+                there.add(method.getReturnType() + " " + method.getName() + types(method.getParameterTypes()));
+            }
+        }
+        for (Field field : HiccupTown.class.getDeclaredFields()) {
+            if (!Modifier.isPrivate(field.getModifiers())) {
+                there.add(field.getType() + " " + field.getName());
+            }
+        }
+        for (Constructor<?> constructor : HiccupTown.class.getDeclaredConstructors()) {
+            there.add("HiccupTown" + types(constructor.getParameterTypes()));
+        }
+        CHECK.due("43 members", told.size(), 43);
+        Set<String> missing = new TreeSet<>(told);
+        missing.removeAll(there);
+        none("members that are missing", missing);
+        there.removeAll(told);
+        none("members that are not told", there);
+        CHECK.due("NONE", HiccupTown.NONE, -1);
+        CHECK.due("final", Modifier.isFinal(HiccupTown.class.getModifiers()), true);
+        CHECK.due("public", Modifier.isPublic(HiccupTown.class.getModifiers()), true);
+    }
+
+    private static String types(Class<?>[] types) {
+        return Arrays.stream(types).map(Class::getSimpleName).collect(Collectors.joining(", ", "(", ")"));
+    }
+
+    private static void insideIsHidden() {
+        Class<?>[] inside = HiccupTown.class.getDeclaredClasses();
+        CHECK.due("twelve classes at most", inside.length + 1 <= 12, true);
+        Set<String> open = new TreeSet<>();
+        Set<String> faceNames = new HashSet<>();
+        for (Method method : HiccupTown.class.getMethods()) {
+            if (method.getDeclaringClass() == HiccupTown.class) {
+                faceNames.add(method.getName());
+            }
+        }
+        Set<String> likeFace = new TreeSet<>();
+        Set<String> changing = new TreeSet<>();
+        Set<String> large = new TreeSet<>();
+        for (Class<?> c : inside) {
+            if (!Modifier.isPrivate(c.getModifiers()) || !Modifier.isStatic(c.getModifiers())) {
+                open.add(c.getName());
+            }
+            for (Method method : c.getDeclaredMethods()) {
+                if (faceNames.contains(method.getName()) && !method.isSynthetic()) {
+                    likeFace.add(c.getName() + "." + method.getName());
+                }
+                if (method.getParameterCount() > 7) {
+                    large.add(method.getName());
+                }
+            }
+        }
+        for (Class<?> c : concat(inside)) {
+            int fields = 0;
+            for (Field field : c.getDeclaredFields()) {
+                if (Modifier.isStatic(field.getModifiers()) && !Modifier.isFinal(field.getModifiers())) {
+                    changing.add(field.toString());
+                }
+                fields += Modifier.isStatic(field.getModifiers()) ? 0 : 1;
+            }
+            if (fields > 20) {
+                large.add(c.getName());
+            }
+        }
+        none("classes inside that are not private and static", open);
+        none("methods inside with a name of the face", likeFace);
+        none("static fields that can change", changing);
+        none("too many parameters or fields", large);
+    }
+
+    private static List<Class<?>> concat(Class<?>[] inside) {
+        List<Class<?>> all = new java.util.ArrayList<>(Arrays.asList(inside));
+        all.add(HiccupTown.class);
+        return all;
+    }
+
+    private static void sourceIsPlain(String source) {
+        String code = source.replaceAll("(?s)/\\*.*?\\*/", "").replaceAll("//[^\n]*", "").replaceAll("\"[^\"\n]*\"", "\"\"");
+        for (String banned : new String[] {"->", "::", "\\bcatch\\b", "\\bfinally\\b", "\\bsynchronized\\b", "\\bassert\\b",
+            "\\bdouble\\b", "\\bfloat\\b", "Exact\\(", "\"\"\\s*\\+", "\\+\\s*\"\"", "\\bvar\\b", "hashCode|toString",
+            "System\\.(?!arraycopy)", "import (?!java\\.util\\.NoSuchElementException;)", "\\bpackage\\b", "protected"}) {
+            Matcher m = Pattern.compile(banned).matcher(code);
+            CHECK.due("the source has '" + banned + "'", m.find(), false);
+        }
+        boolean plainSigns = source.chars().allMatch(c -> c == '\n' || c >= 32 && c < 127);
+        CHECK.due("plain signs", plainSigns, true);
+        int longest = 0;
+        int length = 0;
+        for (String line : source.split("\n")) {
+            length = line.matches(" {4}( {4})?(public |private |static |final )*[A-Za-z\\[\\]]+ [A-Za-z]+\\(.*\\{") ? 1 : length + 1;
+            if (line.matches(" {4}( {4})?\\}")) {
+                longest = Math.max(longest, length);
+                length = -100000;
+            }
+        }
+        CHECK.due("methods of sixty lines at most", longest <= 60, true);
+    }
+}
