@@ -590,7 +590,7 @@ public final class HiccupTown {
                 position++;
             }
             if (letters == 0 && digits == 0) {
-                key = bytes[position] & 255;
+                key = get(position);
                 kind = Word.BAD;
                 position++;
             } else if (digits == 0 && letters <= Word.LONGEST) {
@@ -1738,10 +1738,10 @@ public final class HiccupTown {
                 return moment.isBusy(plan, p);
             }
             if (part == Word.BY) {
-                return moment.place[p] == plan.workPlace[numbers[i]];
+                return plan.has(WORKS, numbers[i]) && moment.place[p] == plan.workPlace[numbers[i]];
             }
             if (part == Word.WITH) {
-                return moment.place[p] == moment.place[numbers[i]];
+                return plan.has(PERSONS, numbers[i]) && moment.place[p] == moment.place[numbers[i]];
             }
             return compares(measure(plan, moment, p, part), signs[i], numbers[i]);
         }

@@ -216,6 +216,7 @@ public final class PromisesTest {
         townFault(line + " ".repeat(888) + "gap 0;", 2, 899);
         townFault(line + " ".repeat(897) + "nonsense", 1, 900);
         townFault("x" + " ".repeat(920), 1, 0);
+        townFault(line + " ".repeat(893) + "ring 3;", 1, 900);
     }
 
     private static void faultKinds() {
@@ -595,6 +596,12 @@ public final class PromisesTest {
         due("22 alone", Checks.stood(u, 2, 59, 1, 3), 2);
         due("23 alone", u.stoodLeast(), 59);
         due("24 alone", u.stoodMost(), 179);
+        HiccupTown v = Checks.townOf("thing a 59;thing b 60;");
+        due("22 just one", Checks.stood(v, 0, 19, 1, 15), 1);
+        due("23 the last there is", v.stoodLeast(), 255);
+        due("24 the last there is", v.stoodMost(), 255);
+        due("25 of one number", v.next(), 0);
+        due("22 256 is too far", Checks.stood(v, 0, 20, 1, 16), 0);
     }
 
     private static void rowsOfBeats() {
@@ -619,6 +626,8 @@ public final class PromisesTest {
         due("27 first", t.rowAt(0) * 64 + t.rowAt(1) * 16 + t.rowAt(2) * 4 + t.rowAt(3), 5);
         due("26 12 in 5", t.rows(12, 5), 10);
         HiccupTown u = Checks.townOf("gap 2;cousin a 2;cousin b 2;cousin c 2;cousin d 2;");
+        due("26 one beat", u.rows(2, 1), 5);
+        due("26 one second", u.rows(1, 1), 0);
         due("26 all alike", u.rows(10, 5), 3125);
         due("27 the man", u.rowAt(4), 0);
     }
@@ -645,6 +654,9 @@ public final class PromisesTest {
         due("28 the man, relieved now", v.swift(1), 0);
         HiccupTown x = Checks.townOf("gap 2;cousin a 9;person p 0 2;work w 1 1;");
         due("28 by none", x.swift(0), -1);
+        HiccupTown y = Checks.townOf("ring 3;gap 9;cousin c 6;person a 0 3;work w 0 30;work v 0 30;work u 0 30;work t 0 10;"
+                + "after v w;after u v;after t u;");
+        due("28 just by 600", y.swift(3), 1);
     }
 
     private static void joinsSoon() {
@@ -775,6 +787,17 @@ public final class PromisesTest {
         u.seconds(50);
         due("34 as many as are left", u.drawn(60, 1), 10);
         due("34 none", u.drawn(60, 1), 0);
+        due("17 what did not go by is not kept", u.undo(), 7);
+        due("17 but what did is", u.now(0), 590);
+        due("34 one", u.drawn(1, 1), 1);
+        due("16 one", u.seconds(1), 1);
+        due("17 one second", u.undo(), 7);
+        due("17 one drawn", u.undo(), 6);
+        due("17 as before", u.now(0), 590);
+        u.seconds(10);
+        due("16 none", u.seconds(3), 0);
+        due("17 none is not kept", u.undo(), 6);
+        due("17 ten are", u.now(0), 590);
     }
 
     private static void oddsOfDraws() {
@@ -795,6 +818,7 @@ public final class PromisesTest {
         due("35 nothing to undo", t.undo(), -1);
         t.seconds(24);
         due("35 done", t.odds(0, 9, 1), 9);
+        due("35 one", t.odds(0, 1, 1), 1);
     }
 
     private static void booksLive() {
@@ -817,6 +841,10 @@ public final class PromisesTest {
         due("36 stays", t.now(0), 63);
         due("36 wrong at once", Checks.book(t, "fly;", 1), 0);
         due("36 nothing", Checks.book(t, "", 1), -1);
+        due("36 pat", Checks.book(t, "relieve pat;", 1), -1);
+        due("36 pat", t.now(1), 2);
+        t.undo();
+        due("17 a book of one line", t.now(1), 0);
         due("36 nothing but blanks", Checks.book(t, " \n ", 0), -1);
         due("36 40 lines", Checks.book(t, "second 1;".repeat(40), 0), -1);
     }
