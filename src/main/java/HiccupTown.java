@@ -666,21 +666,6 @@ public final class HiccupTown {
             advance();
             return one;
         }
-
-        /** The NAME that comes, which nobody has; 0 with a FAULT. */
-        long takeNewName(Plan plan) {
-            if (kind != Word.NAME) {
-                fail(NO_TOKEN);
-                return 0;
-            }
-            if (plan.knows(key)) {
-                fail(BAD_NAME);
-                return 0;
-            }
-            long taken = key;
-            advance();
-            return taken;
-        }
     }
 
     /** What the text of a TOWN told: all that no act changes. */
@@ -854,42 +839,45 @@ public final class HiccupTown {
             return true;
         }
 
-        private boolean readCousin(Tape tape) {
-            if (plan.isFull(COUSINS)) {
-                return tape.fail(TOO_MANY);
+        /** The number of one more of a sort, at the LINE's first WORD; NONE with a FAULT. */
+        private int readNewOne(Tape tape, int sort) {
+            if (plan.isFull(sort)) {
+                tape.fail(TOO_MANY);
+                return NONE;
             }
             tape.advance();
-            long name = tape.takeNewName(plan);
-            if (name == 0) {
-                return false;
+            if (tape.kind != Word.NAME) {
+                tape.fail(NO_TOKEN);
+                return NONE;
             }
+            if (plan.knows(tape.key)) {
+                tape.fail(BAD_NAME);
+                return NONE;
+            }
+            int one = plan.addName(sort, tape.key);
+            tape.advance();
+            return one;
+        }
+
+        // Behind a FAULT the rest of a LINE may be read on: the tape keeps its first FAULT alone.
+
+        private boolean readCousin(Tape tape) {
+            int cousin = readNewOne(tape, COUSINS);
             int seconds = tape.takeNumber(1, 9);
-            if (seconds == NONE) {
+            if (cousin == NONE || seconds == NONE) {
                 return false;
             }
-            int cousin = plan.addName(COUSINS, name);
             plan.gaps[1 + cousin] = seconds;
             return true;
         }
 
         private boolean readPerson(Tape tape) {
-            if (plan.isFull(PERSONS)) {
-                return tape.fail(TOO_MANY);
-            }
-            tape.advance();
-            long name = tape.takeNewName(plan);
-            if (name == 0) {
-                return false;
-            }
+            int person = readNewOne(tape, PERSONS);
             int place = tape.takeNumber(0, plan.ring - 1);
-            if (place == NONE) {
-                return false;
-            }
             int pace = tape.takeNumber(1, 3);
-            if (pace == NONE) {
+            if (person == NONE || place == NONE || pace == NONE) {
                 return false;
             }
-            int person = plan.addName(PERSONS, name);
             plan.personPlace[person] = place;
             plan.personPace[person] = pace;
             if (tape.kind == Word.OUT) {
@@ -900,23 +888,12 @@ public final class HiccupTown {
         }
 
         private boolean readWork(Tape tape) {
-            if (plan.isFull(WORKS)) {
-                return tape.fail(TOO_MANY);
-            }
-            tape.advance();
-            long name = tape.takeNewName(plan);
-            if (name == 0) {
-                return false;
-            }
+            int work = readNewOne(tape, WORKS);
             int place = tape.takeNumber(0, plan.ring - 1);
-            if (place == NONE) {
-                return false;
-            }
             int beats = tape.takeNumber(1, 30);
-            if (beats == NONE) {
+            if (work == NONE || place == NONE || beats == NONE) {
                 return false;
             }
-            int work = plan.addName(WORKS, name);
             plan.workPlace[work] = place;
             plan.workBeats[work] = beats;
             plan.workBehind[work] = 0;
@@ -926,12 +903,9 @@ public final class HiccupTown {
         private boolean readAfter(Tape tape) {
             tape.advance();
             int later = tape.takeOneOf(plan, WORKS);
-            if (later == NONE) {
-                return false;
-            }
             int where = tape.place;
             int earlier = tape.takeOneOf(plan, WORKS);
-            if (earlier == NONE) {
+            if (later == NONE || earlier == NONE) {
                 return false;
             }
             if (earlier >= later || hasBit(plan.workBehind[later], earlier)) {
@@ -942,19 +916,11 @@ public final class HiccupTown {
         }
 
         private boolean readThing(Tape tape) {
-            if (plan.isFull(THINGS)) {
-                return tape.fail(TOO_MANY);
-            }
-            tape.advance();
-            long name = tape.takeNewName(plan);
-            if (name == 0) {
-                return false;
-            }
+            int thing = readNewOne(tape, THINGS);
             int seconds = tape.takeNumber(2, 60);
-            if (seconds == NONE) {
+            if (thing == NONE || seconds == NONE) {
                 return false;
             }
-            int thing = plan.addName(THINGS, name);
             plan.every[thing] = seconds;
             return true;
         }
