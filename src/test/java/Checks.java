@@ -2,7 +2,7 @@ import java.nio.charset.StandardCharsets;
 import java.util.NoSuchElementException;
 
 /** What the tests share: counting wrong answers, and putting texts on a tape. */
-final class Checks {
+class Checks {
     static final String TOWN = "ring 6;gap 3;cousin kit 2;cousin pat 5;person ann 0 1;person bob 3 2;"
             + "person cid 4 1 out;work bread 2 2;work milk 1 1;after milk bread;thing gull 7;thing loaf 10;";
 
@@ -31,8 +31,8 @@ final class Checks {
         due(what + " throws", thrown, true);
     }
 
-    int wrongSoFar() {
-        return wrong;
+    int asked() {
+        return asked;
     }
 
     void finish() {
@@ -89,6 +89,46 @@ final class Checks {
         }
         put(town, text.toString());
         return town.stood();
+    }
+
+    /** All that is so in the town, as a text. */
+    static String state(HiccupTown town) {
+        StringBuilder text = new StringBuilder();
+        for (int what = 0; what < 8; what++) {
+            text.append(town.now(what)).append(' ');
+        }
+        for (int p = 0; p < town.count(2); p++) {
+            for (int what = 0; what < 5; what++) {
+                text.append(town.person(p, what)).append(' ');
+            }
+        }
+        for (int w = 0; w < town.count(3); w++) {
+            for (int what = 0; what < 5; what++) {
+                text.append(town.work(w, what)).append(' ');
+            }
+        }
+        for (int what = 0; what < 5; what++) {
+            text.append(town.count(what)).append(' ');
+        }
+        for (int c = 0; c <= town.count(1); c++) {
+            text.append(town.gap(c)).append(' ');
+        }
+        return text.append(town.said(-1)).toString();
+    }
+
+    /** All is as it was. */
+    void dueState(String what, HiccupTown town, String was) {
+        String is = state(town);
+        if (!is.equals(was)) {
+            System.out.println(what + ": it is " + is + ", it was " + was);
+        }
+        due(what + ": all is as it was", is.equals(was), true);
+    }
+
+    static void pass(HiccupTown town, int seconds) {
+        for (int left = seconds; left > 0; left -= 60) {
+            town.seconds(Math.min(left, 60));
+        }
     }
 
     static String tag(HiccupTown town, int p) {
