@@ -83,7 +83,7 @@ public final class FaceTest {
         Set<String> changing = new TreeSet<>();
         Set<String> large = new TreeSet<>();
         for (Class<?> c : inside) {
-            if (!Modifier.isPrivate(c.getModifiers()) || !Modifier.isStatic(c.getModifiers())) {
+            if ((c.getModifiers() & (Modifier.PUBLIC | Modifier.PROTECTED)) != 0 || !Modifier.isStatic(c.getModifiers())) {
                 open.add(c.getName());
             }
             for (Method method : c.getDeclaredMethods()) {
@@ -107,7 +107,7 @@ public final class FaceTest {
                 large.add(c.getName());
             }
         }
-        none("classes inside that are not private and static", open);
+        none("classes inside that are not hidden and static", open);
         none("methods inside with a name of the face", likeFace);
         none("static fields that can change", changing);
         none("too many parameters or fields", large);
@@ -121,9 +121,11 @@ public final class FaceTest {
 
     private static void sourceIsPlain(String source) {
         String code = source.replaceAll("(?s)/\\*.*?\\*/", "").replaceAll("//[^\n]*", "").replaceAll("\"[^\"\n]*\"", "\"\"");
-        for (String banned : new String[] {"->", "::", "\\bcatch\\b", "\\bfinally\\b", "\\bsynchronized\\b", "\\bassert\\b",
-            "\\bdouble\\b", "\\bfloat\\b", "Exact\\(", "\"\"\\s*\\+", "\\+\\s*\"\"", "\\bvar\\b", "hashCode|toString",
-            "System\\.(?!arraycopy)", "import (?!java\\.util\\.NoSuchElementException;)", "\\bpackage\\b", "protected"}) {
+        code = code.replaceAll("\\b(case [^;{}]*|default)\\s*->", "");
+        for (String banned : new String[] {"->", "::", "\\bfinally\\b", "\\bsynchronized\\b", "\\bassert\\b", "Exact\\(",
+            "\"\"\\s*\\+", "\\+\\s*\"\"", "\\bhashCode\\b", "catch \\((Throwable|Exception|Error|ArrayIndex|NullPointer|ClassCast)",
+            "System\\.(?!arraycopy)", "import (?!java\\.util\\.(NoSuchElementException|ArrayList|List|Arrays|Iterator);)",
+            "\\bpackage\\b", "\\bprotected\\b", "\\bThread\\b", "\\bRandom\\b", "\\bClass\\b"}) {
             Matcher m = Pattern.compile(banned).matcher(code);
             CHECK.due("the source has '" + banned + "'", m.find(), false);
         }

@@ -225,6 +225,18 @@ public final class TextSentencesTest {
         for (int w = 0; w < 6; w++) {
             DOC.due("work " + w + " comes behind all ahead", t.work(w, 4), (1 << w) - 1);
         }
+        for (int c = 0; c < 4; c++) {
+            DOC.due("cousin " + c + " by his name", Checks.book(t, "relieve " + name(0, c) + ";", 1), -1);
+            DOC.due("cousin " + c, t.now(1), 1 + c);
+        }
+        for (int p = 0; p < 7; p++) {
+            DOC.due("person " + p + " by his name", Checks.book(t, name(1, p) + " leaves;", 1), -1);
+            DOC.due("person " + p, t.now(5), (2 << p) - 1);
+            DOC.due("tag of person " + p, Checks.tag(t, p).equals(name(1, p) + " at 0 out"), true);
+        }
+        for (int w = 0; w < 6; w++) {
+            DOC.due("work " + w + " by its name", Checks.sentence(t, "by " + name(2, w)), 1);
+        }
     }
 
     /** All that a TOWN can tell: 39 LINES. */
