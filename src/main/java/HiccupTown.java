@@ -365,7 +365,10 @@ public final class HiccupTown {
 
     public int sentence() {
         tape.beginText(SENTENCE_MOST);
-        draft.readSentence(tape, scene.plan);
+        draft.clear();
+        if (draft.readCond(tape, scene.plan, 1)) {
+            tape.take(Word.END);
+        }
         if (endText()) {
             return -1 - tape.faultPlace;
         }
@@ -581,8 +584,10 @@ public final class HiccupTown {
             while (position < length) {
                 int b = bytes[position];
                 if (b >= 'a' && b <= 'z') {
+                    key = key << 8 | b;
                     letters++;
                 } else if (b >= '0' && b <= '9') {
+                    number = number * 10 + b - '0';
                     digits++;
                 } else {
                     break;
@@ -590,29 +595,15 @@ public final class HiccupTown {
                 position++;
             }
             if (letters == 0 && digits == 0) {
-                key = get(position);
+                key = position < length ? bytes[position] & 255 : 0;
                 kind = Word.BAD;
                 position++;
             } else if (digits == 0 && letters <= Word.LONGEST) {
-                joinLetters();
                 kind = Word.NAME;
-            } else if (letters == 0 && digits <= 3) {
-                joinDigits();
-                kind = Word.DIGITS;
             } else {
-                kind = Word.BAD;
-            }
-        }
-
-        private void joinLetters() {
-            for (int i = place; i < position; i++) {
-                key = key << 8 | bytes[i];
-            }
-        }
-
-        private void joinDigits() {
-            for (int i = place; i < position; i++) {
-                number = number * 10 + bytes[i] - '0';
+                // Letters among digits, or too many of them, must not pass for a shorter word.
+                key = 0;
+                kind = letters == 0 && digits <= 3 ? Word.DIGITS : Word.BAD;
             }
         }
 
@@ -1532,13 +1523,12 @@ public final class HiccupTown {
             judged = true;
             why = 0;
             rightLines = 0;
-            while (rightLines < lines && why == 0) {
-                int act = acts[rightLines];
-                int whyNot = moment.act(plan, act, whom[rightLines]);
+            for (int i = 0; i < lines && why == 0; i++) {
+                int whyNot = moment.act(plan, acts[i], whom[i]);
                 if (whyNot == 0) {
                     rightLines++;
                 } else {
-                    why = 10 * act + whyNot;
+                    why = 10 * acts[i] + whyNot;
                 }
             }
             secondThen = moment.second;
@@ -1591,12 +1581,7 @@ public final class HiccupTown {
             }
         }
 
-        boolean readSentence(Tape tape, Plan plan) {
-            clear();
-            return readCond(tape, plan, 1) && tape.take(Word.END);
-        }
-
-        private boolean readCond(Tape tape, Plan plan, int depth) {
+        boolean readCond(Tape tape, Plan plan, int depth) {
             if (!readAll(tape, plan, depth)) {
                 return false;
             }

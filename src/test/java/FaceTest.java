@@ -24,7 +24,23 @@ public final class FaceTest {
         faceIsTold();
         insideIsHidden();
         sourceIsPlain(Files.readString(SOURCE));
+        lastCall();
         CHECK.finish();
+    }
+
+    /** An object is used for at most 512 calls: the last of them is answered as the first. */
+    private static void lastCall() {
+        HiccupTown beats = new HiccupTown();
+        HiccupTown undone = new HiccupTown();
+        HiccupTown images = new HiccupTown();
+        for (int call = 1; call < 512; call++) {
+            CHECK.due("second " + call, beats.seconds(1), 1);
+            CHECK.due("act " + call, call % 2 == 1 ? undone.fright() : undone.undo(), 0);
+            CHECK.due("image " + call, call % 2 == 1 ? images.image(0) : images.restore(0), true);
+        }
+        CHECK.due("the 512th call", beats.now(4), 127);
+        CHECK.due("the 512th call", undone.undo(), 0);
+        CHECK.due("the 512th call", images.now(0), 0);
     }
 
     private static void none(String what, Set<String> found) {

@@ -269,6 +269,10 @@ public final class TellSentencesTest {
         due("not by 600", last.joins(1), -1);
         last.seconds(1);
         due("at 600 a is still there", last.joins(1), -1);
+        HiccupTown late = of("gap 1;ring 6;person a 0 1;person b 0 1 out;");
+        Checks.pass(late, 600);
+        due("601 is too late", late.joins(1), -1);
+        due("33 is not the second person", late.joins(33), -1);
         last.leave(0);
         due("at 600 now", last.joins(1), 0);
     }
@@ -696,6 +700,7 @@ public final class TellSentencesTest {
             DOC.dueState("1 as kept", t, was);
         }
         due("it goes on", t.when(1), 9);
+        restoredFull();
         DOC.says("(the tape, and what other calls told last, stays;");
         t = sample();
         t.image(0);
@@ -733,6 +738,27 @@ public final class TellSentencesTest {
         due("what comes then", t.undo(), 0);
         due("alone", t.undo(), -1);
         due("still as kept", t.now(0), 5);
+    }
+
+    private static void restoredFull() {
+        HiccupTown full = of("ring 12;gap 2;cousin a 1;cousin b 2;cousin c 3;cousin d 4;person e 0 1;person f 1 2;person g 2 3;"
+                + "person h 3 1;person i 4 2;person j 5 3;person k 6 1;work l 7 1;work m 7 2;work n 7 3;work o 7 4;work p 7 5;"
+                + "work q 7 30;after q l;thing r 2;thing s 3;thing t 4;thing u 5;thing v 60;");
+        full.seconds(9);
+        full.relieve(4);
+        full.image(1);
+        String was = Checks.state(full);
+        full.seconds(50);
+        full.undo();
+        DOC.dueState("a full town, undone", full, was);
+        full.seconds(50);
+        full.town();
+        full.restore(1);
+        DOC.dueState("a full town, restored", full, was);
+        due("its last thing", Checks.stood(full, 4, 59), 4);
+        due("its last person", Checks.book(full, "k leaves;", 1), -1);
+        due("its last cousin", Checks.book(full, "relieve man;relieve d;", 1), -1);
+        due("its last work", Checks.sentence(full, "by q"), 1);
     }
 
     private static void restoredRest() {
