@@ -648,10 +648,14 @@ public final class TextSentencesTest {
     private static void sentenceCounts() {
         DOC.says("20 ONES,");
         sentence("out" + " or out".repeat(19), 20);
+        sentence("out" + " and out".repeat(19), 20);
         sentence("not out" + " and not out".repeat(9), 20);
         sentence("(out)" + "or(out)".repeat(9), 20);
         sentence("place<1" + " or place<1".repeat(16) + " or out" + " or out", 19);
         sentenceFault("out" + " or out".repeat(20), 4, 140);
+        sentenceFault("out" + " and out".repeat(20), 4, 160);
+        sentenceFault("(out" + " or out".repeat(18) + ") or out", 4, 135);
+        sentenceFault("(out" + " and out".repeat(18) + ") and out", 4, 154);
         sentenceFault("not out" + " and not out".repeat(9) + " or out", 4, 119);
         sentenceFault("out" + " or out".repeat(18) + " or not out", 4, 137);
         sentenceFault("(out)" + "or(out)".repeat(9) + "or(out)", 4, 70);
