@@ -252,6 +252,8 @@ public final class ActSentencesTest {
         Checks.pass(t, 599);
         due("steps of 600 beats", t.person(0, 3), 1800);
         due("none of his who is out", t.person(1, 3), 0);
+        HiccupTown u = of("person a 3 1;work u 0 1;work v 1 1;work w 2 1;work x 4 1;work y 5 1;work z 3 1;");
+        due("one alone is busy with the last work of all", u.person(0, 4), 1);
         DOC.says("NoSuchElementException: no such ones.");
         DOC.dueThrow("one behind the last", t, 3, 0);
         DOC.dueThrow("below", t, -1, 0);

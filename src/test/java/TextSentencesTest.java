@@ -5,6 +5,34 @@ public final class TextSentencesTest {
             + " joins second or and not by with busy place pace steps number").split(" ");
     private static final String[] NEW_ONES = {"cousin %s 1;", "person %s 0 1;", "work %s 0 1;", "thing %s 2;"};
     private static final int[] MOST = {4, 7, 6, 5};
+    private static final String[] SIGNS = "; < = > ( )".split(" ");
+    private static final String[] NO_TOKENS = {"abcdefgh", "0000", "a1", "1a", "A", "!", ".", "-1", "\u00e9", "\u0000"};
+    private static final String TOLD = "work u 0 1;work v 0 1;";
+
+    /** A text as far as it goes, and what may come behind: words and signs as they are, NAME, NUMBER. */
+    private static final String[][] TOWN_SPOTS = {
+        {"", "ring gap cousin person work after thing"}, {"gap 3;", "ring gap cousin person work after thing"},
+        {"ring", "NUMBER"}, {"ring 5", ";"}, {"gap", "NUMBER"}, {"gap 5", ";"},
+        {"cousin", "NAME"}, {"cousin a", "NUMBER"}, {"cousin a 5", ";"},
+        {"person", "NAME"}, {"person a", "NUMBER"}, {"person a 0", "NUMBER"}, {"person a 0 1", "; out"},
+        {"person a 0 1 out", ";"}, {"work", "NAME"}, {"work a", "NUMBER"}, {"work a 0", "NUMBER"}, {"work a 0 1", ";"},
+        {TOLD + "after", "NAME"}, {TOLD + "after v", "NAME"}, {TOLD + "after v u", ";"},
+        {"thing", "NAME"}, {"thing a", "NUMBER"}, {"thing a 5", ";"},
+    };
+    private static final String[][] BOOK_SPOTS = {
+        {"", "fright cure fly relieve second NAME"}, {"fright;", "fright cure fly relieve second NAME"},
+        {"fright", ";"}, {"cure", ";"}, {"fly", ";"}, {"relieve", "NAME man"}, {"relieve kit", ";"}, {"relieve man", ";"},
+        {"ann", "leaves joins"}, {"ann leaves", ";"}, {"ann joins", ";"}, {"second", "NUMBER"}, {"second 5", ";"},
+    };
+    private static final String A_ONE = "not ( out by with busy place pace steps number";
+    private static final String[][] SENTENCE_SPOTS = {
+        {"", A_ONE}, {"not", A_ONE}, {"(", A_ONE}, {"out or", A_ONE}, {"out and", A_ONE}, {"(out or", A_ONE},
+        {"out", "or and"}, {"not out", "or and"}, {"busy", "or and"}, {"(out", "or and )"}, {"(out)", "or and"},
+        {"out and out", "or and"}, {"out or out", "or and"}, {"(out or out", "or and )"}, {"(out and out", "or and )"},
+        {"by", "NAME"}, {"by milk", "or and"}, {"with", "NAME"}, {"with ann", "or and"},
+        {"place", "< = >"}, {"pace", "< = >"}, {"steps", "< = >"}, {"number", "< = >"},
+        {"place <", "NUMBER"}, {"place =", "NUMBER"}, {"place >", "NUMBER"}, {"place < 1", "or and"}, {"(pace = 1", "or and )"},
+    };
 
     public static void main(String[] args) {
         tokens();
@@ -86,6 +114,54 @@ public final class TextSentencesTest {
         }
         DOC.due("'" + text + "' is a sentence", ones > 0, true);
         DOC.due("'" + text + "' is said of", bits, persons);
+    }
+
+    /** A FAULT 1 at the TOKEN that comes behind a blank. */
+    private static void faultBehind(int text, String ahead, String token) {
+        String whole = ahead + " " + token;
+        if (text == 0) {
+            townFault(whole, 1, ahead.length() + 1);
+        } else if (text == 1) {
+            bookFault(whole, 1, ahead.length() + 1);
+        } else {
+            sentenceFault(whole, 1, ahead.length() + 1);
+        }
+    }
+
+    private static void noTokensAt(int text, String[][] spots) {
+        for (String[] spot : spots) {
+            for (String token : NO_TOKENS) {
+                faultBehind(text, spot[0], token);
+                faultBehind(text, spot[0], token + " out;");
+            }
+        }
+    }
+
+    private static boolean mayCome(String what, String[] spot) {
+        return java.util.Arrays.asList(spot[1].split(" ")).contains(what);
+    }
+
+    private static void wrongTokensAt(int text, String[][] spots) {
+        for (String[] spot : spots) {
+            for (String word : RESERVED) {
+                if (!mayCome(word, spot)) {
+                    faultBehind(text, spot[0], word);
+                }
+            }
+            for (String sign : SIGNS) {
+                if (!mayCome(sign, spot)) {
+                    faultBehind(text, spot[0], sign);
+                }
+            }
+            if (!mayCome("NAME", spot)) {
+                faultBehind(text, spot[0], "zoe");
+                faultBehind(text, spot[0], "ann");
+            }
+            if (!mayCome("NUMBER", spot)) {
+                faultBehind(text, spot[0], "1");
+                faultBehind(text, spot[0], "999");
+            }
+        }
     }
 
     private static boolean isBlank(int b) {
@@ -606,6 +682,11 @@ public final class TextSentencesTest {
         said(t, "busy", 4);
         t.seconds(1);
         said(t, "busy", 0);
+        t = Checks.townOf("gap 1;person a 5 1;" + row(2, 5) + "work last 6 2;");
+        said(t, "busy or by last", 0);
+        t.seconds(1);
+        said(t, "busy", 1);
+        said(t, "by last", 1);
         sentenceFault("busy ann", 1, 5);
     }
 
@@ -721,7 +802,13 @@ public final class TextSentencesTest {
         townFault("gap 1000;", 1, 4);
         bookFault("second 1000;", 1, 7);
         sentenceFault("out or #", 1, 7);
+        noTokensAt(0, TOWN_SPOTS);
+        noTokensAt(1, BOOK_SPOTS);
+        noTokensAt(2, SENTENCE_SPOTS);
         DOC.says("or one that can't come (at it;");
+        wrongTokensAt(0, TOWN_SPOTS);
+        wrongTokensAt(1, BOOK_SPOTS);
+        wrongTokensAt(2, SENTENCE_SPOTS);
         townFault("gap gap;", 1, 4);
         townFault("  gap   ring 5;", 1, 8);
         townFault("5;", 1, 0);
@@ -756,6 +843,26 @@ public final class TextSentencesTest {
         sentenceFault(" ".repeat(200), 1, 200);
     }
 
+    /** Where a text may go no further, what would come there is not looked at, be it a FAULT of another kind. */
+    private static void tooLongBehindAllSpots() {
+        String full = "ring 8;gap 4;" + row(0, 4) + row(1, 7) + row(2, 6) + row(3, 5);
+        String[] towns = {"ring 8;", "gap 4;", "person a 0 1;", "work a 0 1;", full, full + "after wf wa;"};
+        for (String text : towns) {
+            for (String more : new String[] {"", "ring 5;", "cousin", "person", "work", "thing", "after"}) {
+                townFault(text + " ".repeat(901 - text.length()) + more, 1, 900);
+            }
+        }
+        bookFault("second 1;".repeat(40) + " ".repeat(41), 1, 400);
+        bookFault("second 1;".repeat(40) + " ".repeat(41) + "zoe", 1, 400);
+        String twenty = "out" + " or out".repeat(19);
+        for (String more : new String[] {"", "out", "not", "(", "by zoe", "place"}) {
+            sentenceFault(twenty + " or" + " ".repeat(62) + more, 1, 200);
+            sentenceFault(twenty + " and" + " ".repeat(61) + more, 1, 200);
+            sentenceFault("not ".repeat(8) + " ".repeat(169) + more, 1, 200);
+            sentenceFault("(".repeat(8) + " ".repeat(193) + more, 1, 200);
+        }
+    }
+
     private static void faultsOfLength() {
         DOC.says("the most bytes told, if there are more and no FAULT is ahead:");
         townFault("gap 3;" + " ".repeat(895), 1, 900);
@@ -778,6 +885,7 @@ public final class TextSentencesTest {
         sentenceFault("by" + " ".repeat(197) + "zoe", 3, 199);
         sentenceFault("by" + " ".repeat(198) + "zoe", 1, 200);
         sentenceFault("by zoe" + " ".repeat(198), 3, 3);
+        tooLongBehindAllSpots();
         DOC.says("TOKENS that begin ahead of it are read whole);");
         townFault(" ".repeat(899) + "gap 3;", 1, 900);
         townFault(" ".repeat(899) + "gup 3;", 1, 899);
