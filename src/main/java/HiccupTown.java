@@ -365,10 +365,7 @@ public final class HiccupTown {
 
     public int sentence() {
         tape.beginText(SENTENCE_MOST);
-        draft.clear();
-        if (draft.readCond(tape, scene.plan, 1)) {
-            tape.take(Word.END);
-        }
+        draft.readSentence(tape, scene.plan);
         if (endText()) {
             return -1 - tape.faultPlace;
         }
@@ -393,19 +390,21 @@ public final class HiccupTown {
     }
 
     public boolean image(int k) {
-        if (k < 0 || k >= IMAGES) {
+        Scene place = imageAt(k);
+        if (place == null) {
             return false;
         }
-        images[k].copyFrom(scene);
-        images[k].kept = true;
+        place.copyFrom(scene);
+        place.kept = true;
         return true;
     }
 
     public boolean restore(int k) {
-        if (k < 0 || k >= IMAGES || !images[k].kept) {
+        Scene place = imageAt(k);
+        if (place == null || !place.kept) {
             return false;
         }
-        scene.copyFrom(images[k]);
+        scene.copyFrom(place);
         past.forget();
         return true;
     }
@@ -427,6 +426,11 @@ public final class HiccupTown {
         tape.length = 0;
         faultKind = tape.fault;
         return tape.fault != 0;
+    }
+
+    /** Where image k is kept; null: no such one. */
+    private Scene imageAt(int k) {
+        return k < 0 || k >= IMAGES ? null : images[k];
     }
 
     private int actKept(int act, int whom) {
@@ -1246,16 +1250,20 @@ public final class HiccupTown {
 
         void keep(Moment moment) {
             newest = (newest + 1) & (MOST - 1);
-            moments[newest].copyFrom(moment);
-            size = Math.min(MOST, size + 1);
+            Moment place = moments[newest];
+            if (place != null) {
+                place.copyFrom(moment);
+                size = Math.min(MOST, size + 1);
+            }
         }
 
         /** How many more can be taken back; NONE, and the moment stays, if none can. */
         int takeBack(Moment moment) {
-            if (size == 0) {
+            Moment latest = moments[newest];
+            if (size == 0 || latest == null) {
                 return NONE;
             }
-            moment.copyFrom(moments[newest]);
+            moment.copyFrom(latest);
             newest = (newest + MOST - 1) & (MOST - 1);
             size--;
             return size;
@@ -1581,7 +1589,12 @@ public final class HiccupTown {
             }
         }
 
-        boolean readCond(Tape tape, Plan plan, int depth) {
+        boolean readSentence(Tape tape, Plan plan) {
+            clear();
+            return readCond(tape, plan, 1) && tape.take(Word.END);
+        }
+
+        private boolean readCond(Tape tape, Plan plan, int depth) {
             if (!readAll(tape, plan, depth)) {
                 return false;
             }
@@ -1632,7 +1645,13 @@ public final class HiccupTown {
                 int named = tape.takeOneOf(plan, first == Word.BY ? WORKS : PERSONS);
                 return named != NONE && add(first, first, named);
             }
-            return readCompared(tape, first);
+            Word sign = tape.kind;
+            if (!isSign(sign)) {
+                return tape.fail(NO_TOKEN);
+            }
+            tape.advance();
+            int number = tape.takeNumber(0, 999);
+            return number != NONE && add(first, sign, number);
         }
 
         private static boolean beginsOne(Word word) {
@@ -1641,14 +1660,8 @@ public final class HiccupTown {
                     || word == Word.STEPS || word == Word.NUMBER;
         }
 
-        private boolean readCompared(Tape tape, Word what) {
-            Word sign = tape.kind;
-            if (sign != Word.LESS && sign != Word.EQUAL && sign != Word.GREATER) {
-                return tape.fail(NO_TOKEN);
-            }
-            tape.advance();
-            int number = tape.takeNumber(0, 999);
-            return number != NONE && add(what, sign, number);
+        private static boolean isSign(Word word) {
+            return word == Word.LESS || word == Word.EQUAL || word == Word.GREATER;
         }
 
         private boolean add(Word part, Word sign, int number) {
